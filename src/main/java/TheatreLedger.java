@@ -888,12 +888,15 @@ public final class TheatreLedger {
 
     /** The latest entries, each in the row that its id gives; most methods rely on the caller to have asked has. */
     private static final class Journal {
+        /** An entry is never both, because a reversal cannot be reversed. */
+        private static final int REVERSED = 1;
+        private static final int REVERSAL = 2;
+
         private final int[] debited = new int[KEPT_ENTRIES];
         private final int[] credited = new int[KEPT_ENTRIES];
         private final long[] amounts = new long[KEPT_ENTRIES];
         private final int[] hours = new int[KEPT_ENTRIES];
-        private final boolean[] reversed = new boolean[KEPT_ENTRIES];
-        private final boolean[] reversals = new boolean[KEPT_ENTRIES];
+        private final int[] marks = new int[KEPT_ENTRIES];
         private int nextId;
 
         void copyFrom(Journal other) {
@@ -901,8 +904,7 @@ public final class TheatreLedger {
             System.arraycopy(other.credited, 0, credited, 0, KEPT_ENTRIES);
             System.arraycopy(other.amounts, 0, amounts, 0, KEPT_ENTRIES);
             System.arraycopy(other.hours, 0, hours, 0, KEPT_ENTRIES);
-            System.arraycopy(other.reversed, 0, reversed, 0, KEPT_ENTRIES);
-            System.arraycopy(other.reversals, 0, reversals, 0, KEPT_ENTRIES);
+            System.arraycopy(other.marks, 0, marks, 0, KEPT_ENTRIES);
             nextId = other.nextId;
         }
 
@@ -927,8 +929,7 @@ public final class TheatreLedger {
             if (!has(entry)) {
                 return Fault.NO_ENTRY;
             }
-            int row = rowOf(entry);
-            return reversed[row] || reversals[row] ? Fault.WRONG_STATE : Fault.NONE;
+            return marks[rowOf(entry)] == 0 ? Fault.NONE : Fault.WRONG_STATE;
         }
 
         int add(int debit, int credit, long amount, int hour) {
@@ -937,18 +938,17 @@ public final class TheatreLedger {
             credited[row] = credit;
             amounts[row] = amount;
             hours[row] = hour;
-            reversed[row] = false;
-            reversals[row] = false;
+            marks[row] = 0;
             nextId++;
             return nextId - 1;
         }
 
         void markReversed(int entry) {
-            reversed[rowOf(entry)] = true;
+            marks[rowOf(entry)] = REVERSED;
         }
 
         void markReversal(int entry) {
-            reversals[rowOf(entry)] = true;
+            marks[rowOf(entry)] = REVERSAL;
         }
 
         int debitedBy(int entry) {
@@ -968,7 +968,7 @@ public final class TheatreLedger {
         }
 
         boolean wasReversed(int entry) {
-            return reversed[rowOf(entry)];
+            return marks[rowOf(entry)] == REVERSED;
         }
     }
 
@@ -1556,12 +1556,15 @@ public final class TheatreLedger {
             return values[command * MAX_VALUES + part];
         }
 
-        /** Returns whether the text is well-formed. */
+        /**
+         * Returns whether the text is well-formed. A command more than fit is still looked for, because a full buffer
+         * that ends with a semicolon ends too early.
+         */
         boolean read() {
             at = 0;
             count = 0;
             boolean isFine = readCommand();
-            for (int further = 1; further < MAX_COMMANDS && isFine && isNext(';'); further++) {
+            for (int further = 1; further <= MAX_COMMANDS && isFine && isNext(';'); further++) {
                 at++;
                 isFine = readCommand();
             }

@@ -20,6 +20,10 @@ public final class ModelTests {
     }
 
     public static void main(String[] args) {
+        if (!new ModelTests(0).fullBooksHold()) {
+            System.out.println("full books differ from the model");
+            System.exit(1);
+        }
         for (int seed = 0; seed < RUNS; seed++) {
             if (!new ModelTests(seed).holds()) {
                 System.out.println("the run with seed " + seed + " differs from the model");
@@ -38,6 +42,52 @@ public final class ModelTests {
             }
         }
         return sameState();
+    }
+
+    /** Every row at its limit, and then texts that end at each place of the full input buffer. */
+    private boolean fullBooksHold() {
+        boolean fine = true;
+        for (int n = 0; n < 13; n++) {
+            fine &= same("openBelow", n) & same("prompt", n % 6, (n + 1) % 6, 999, 1 + n % 3, 9) & sameState();
+            fine &= same("buy", 1, 1 + n) & same("bill", 990 + n % 10) & sameState();
+        }
+        fine &= same("passHours", 24) & sameState() & same("curtain") & sameState();
+        fine &= same("pay", 999) & same("pay", 998) & sameState() & same("undo") & same("undo") & sameState();
+        String text = "post 11 10 999;open a 11;open l;wait 24;curtain;sell 20 40;back 123;buy 10 100;bill 999;pay 999";
+        for (int from = 0; from < text.length(); from++) {
+            fine &= sameText(waits(24 + from % 30) + text.substring(from)) & sameState();
+        }
+        for (int end = 0; end <= text.length(); end++) {
+            int start = text.lastIndexOf(';', end - 1) + 1;
+            String last = text.substring(start, end);
+            fine &= sameText(waits(60 - last.length()) + last) & sameText(waits(59 - last.length()) + last) & sameText(last);
+        }
+        if (!fine) {
+            told.stream().filter(line -> !isSame(line)).forEach(System.out::println);
+        }
+        return fine && sameState();
+    }
+
+    /** Well-formed commands that take this many characters with their semicolons, from 24 on. */
+    private static String waits(int length) {
+        int longer = 0;
+        while ((length - 7 * longer) % 5 != 0) {
+            longer++;
+        }
+        return "wait 1;".repeat(longer) + "wait;".repeat((length - 7 * longer) / 5);
+    }
+
+    private static boolean isSame(String line) {
+        String[] parts = line.split(" answered |, due is ");
+        return parts.length == 3 && parts[1].equals(parts[2]);
+    }
+
+    private boolean sameText(String text) {
+        boolean fine = true;
+        for (char character : text.toCharArray()) {
+            fine &= same("feed", character);
+        }
+        return fine & same("runCommands") & same("errorPosition") & same("failedCommand");
     }
 
     private boolean same(String name, Object... arguments) {

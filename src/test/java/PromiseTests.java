@@ -46,6 +46,7 @@ public final class PromiseTests {
         test("12 pay a set", PromiseTests::payASet);
         test("12 pay in order", PromiseTests::payInOrder);
         test("13 curtain", PromiseTests::curtain);
+        test("13 curtain for balances of 1", PromiseTests::curtainForOne);
     }
 
     private static void accounts() {
@@ -94,7 +95,9 @@ public final class PromiseTests {
         test("60 outputChar", PromiseTests::outputChar);
         test("61 62 undo", PromiseTests::undo);
         test("62 undo each recorded call", PromiseTests::undoEach);
+        test("62 undo after a command that failed", PromiseTests::undoAfterFailure);
         test("63 64 save and restore", PromiseTests::saveAndRestore);
+        test("63 64 restore over other books", PromiseTests::restoreOverOthers);
     }
 
     // The calls.
@@ -417,6 +420,22 @@ public final class PromiseTests {
         due("curtainCount", x.curtainCount(), 3);
     }
 
+    private static void curtainForOne() {
+        x.post(0, 4, 1);
+        x.post(5, 0, 1);
+        due("curtain", x.curtain(), 0);
+        entry(2, 4, 3, 1);
+        entry(3, 3, 5, 1);
+        x.post(4, 0, 1);
+        x.post(0, 5, 1);
+        x.open('i');
+        x.post(0, 6, 1);
+        due("curtain", x.curtain(), 1);
+        entry(7, 3, 4, 1);
+        entry(8, 5, 3, 1);
+        entry(9, 6, 3, 1);
+    }
+
     private static void entry(int id, int debit, int credit, long amount) {
         due("debitOf " + id, x.debitOf(id), debit);
         due("creditOf " + id, x.creditOf(id), credit);
@@ -666,6 +685,13 @@ public final class PromiseTests {
         refused("cashIn -1", ARGUMENT, () -> x.cashIn(-1));
         x.passHours(23);
         due("as it was told", x.balance(0), 528);
+        x = new TheatreLedger();
+        x.prompt(0, 3, 10, 2, 3);
+        x.prompt(0, 4, 100, 1, 2);
+        x.prompt(5, 0, 1, 3, 1);
+        x.prompt(2, 0, 3, 2, 1);
+        due("cashIn 2", x.cashIn(2), 707);
+        due("cashIn 3", x.cashIn(3), 706);
     }
 
     // Costumes and bills.
@@ -948,6 +974,10 @@ public final class PromiseTests {
                 "curtain;", "wait;", "wait;p", "post 0 1 5;buy 2"}) {
             malformed(text, text.length());
         }
+        malformed("wait;wait;wait;wait;wait;wait;wait;wait;wait;wait;wait;wait;", 60);
+        malformed("wait;wait;wait;wait;wait;wait;wait;wait;wait;wait;wait;wait ", 60);
+        malformed("wait;wait;wait;wait;wait;wait;wait;wait;wait;wait;wait;waits", 59);
+        malformed("wait;wait;wait;wait;wait;wait;wait;wait;wait;wait;wait 0;pay", 60);
         malformed("x", 0);
         malformed(" wait", 0);
         malformed(";", 0);
@@ -1078,6 +1108,23 @@ public final class PromiseTests {
         due("curtain is recorded even if nothing changes", x.undoCount(), 2);
         x.undo();
         due("curtainCount", x.curtainCount(), 0);
+        due("bill", x.bill(5), 0);
+        x.undo();
+        due("bill ids go on from there", x.bill(6), 0);
+    }
+
+    private static void undoAfterFailure() {
+        for (int n = 1; n <= 9; n++) {
+            x.post(0, 3, n);
+        }
+        thrown("runCommands", UNSUPPORTED, () -> run("wait;pay 1"));
+        due("hour", x.hour(), 0);
+        due("undoCount", x.undoCount(), 8);
+        for (int left = 7; left >= 0; left--) {
+            due("undo", x.undo(), left);
+            due("entryCount", x.entryCount(), left + 1);
+        }
+        due("balance", x.balance(0), 501);
     }
 
     private static void undone(String name, Test call) {
@@ -1147,6 +1194,42 @@ public final class PromiseTests {
         x.feed('w');
         x.restore();
         due("the input buffer stays", x.feed('a'), 2);
+    }
+
+    /** Each row that is saved here holds something else before the restore. */
+    private static void restoreOverOthers() {
+        x.open('e');
+        x.openBelow(4);
+        x.post(6, 7, 30);
+        x.reverse(0);
+        x.prompt(6, 0, 5, 3, 4);
+        x.buy(2, 3);
+        x.bill(30);
+        x.passHours(4);
+        x.save();
+        String before = Calls.snapshot(x, 30);
+        for (int n = 0; n < 8; n++) {
+            x.undo();
+        }
+        x.passHours(1);
+        x.bill(9);
+        x.bill(8);
+        x.pay(9);
+        x.buy(5, 7);
+        x.prompt(1, 2, 8, 5, 6);
+        x.post(1, 2, 3);
+        x.post(2, 1, 3);
+        x.openBelow(2);
+        x.open('l');
+        x.passHours(1);
+        x.restore();
+        same("the state is back", stateOf(Calls.snapshot(x, 30)), stateOf(before));
+        refused("a reversal is one still", STATE, () -> x.reverse(1));
+        due("bill ids go on from there", x.bill(1), 1);
+        due("entry ids too", x.post(0, 1, 1), 6);
+        x.passHours(2);
+        due("the prompt is the saved one", x.debitOf(7), 6);
+        due("with the saved period", x.hoursUntilPrompt(0), 3);
     }
 
     private static String stateOf(String snapshot) {

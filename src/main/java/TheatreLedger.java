@@ -1408,21 +1408,15 @@ public final class TheatreLedger {
         int letPass(int hours) {
             int entries = 0;
             for (int passed = 0; passed < hours; passed++) {
-                entries += letOnePass();
-            }
-            return entries;
-        }
-
-        private int letOnePass() {
-            hoursPassed++;
-            int entries = 0;
-            for (int prompt = 0; prompt < prompts.count; prompt++) {
-                if (prompts.comesDue(prompt)) {
-                    makeEntry(prompts.debitedBy(prompt), prompts.creditedBy(prompt), prompts.amountIn(prompt));
-                    entries++;
+                hoursPassed++;
+                for (int prompt = 0; prompt < prompts.count; prompt++) {
+                    if (prompts.comesDue(prompt)) {
+                        makeEntry(prompts.debitedBy(prompt), prompts.creditedBy(prompt), prompts.amountIn(prompt));
+                        entries++;
+                    }
                 }
+                prompts.dropEnded();
             }
-            prompts.dropEnded();
             return entries;
         }
 
